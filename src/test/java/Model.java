@@ -1,0 +1,630 @@
+import java.util.ArrayList;
+import java.util.IdentityHashMap;
+import java.util.List;
+import java.util.Map;
+import java.util.Set;
+import java.util.TreeSet;
+import java.util.function.ToLongFunction;
+
+/**
+ * The document once more, in its own words and by other means than the program: a REF is a link to the
+ * step it means, post-domination lists all ways, and cases are run anew whenever they are asked about.
+ */
+final class Model {
+    /** One step; links are followed by identity, so references follow by themselves. */
+    static final class Step {
+        int kind;
+        int x;
+        int y;
+        Step ref;
+    }
+
+    record Line(int op, int a, int b, int c) {
+    }
+
+    record Branch(int method, int line) {
+    }
+
+    /** What came of running a case. */
+    record Outcome(long[] results, Map<Integer, Long> nearest) {
+        boolean covers(int g) {
+            return nearest.getOrDefault(g, 1L) == 0;
+        }
+    }
+
+    private static final long BASE = 4294967296L;
+
+    final List<List<Line>> methods = List.of(new ArrayList<>(), new ArrayList<>());
+    final List<Branch> branches = new ArrayList<>();
+    /** For each branch the goals on which it depends; listing all ways is too dear to do it at each ask. */
+    final List<Set<Integer>> needed = new ArrayList<>();
+    final List<List<Step>> archive = new ArrayList<>();
+    List<List<Step>> population = new ArrayList<>();
+    List<List<Step>> suite = new ArrayList<>();
+    List<Step> written = new ArrayList<>();
+    List<Step> latest;
+    boolean started = false;
+    int runs = 0;
+    long state;
+
+    Model(int seed) {
+        state = ((long) seed ^ 25214903917L) & 0xFFFFFFFFFFFFL;
+    }
+
+    // ---- the face ----
+
+    boolean line(int m, int op, int a, int b, int c) {
+        if (started || m < 0 || m > 1 || methods.get(m).size() == 10 || op < 0 || op > 9) {
+            return false;
+        }
+        boolean namesA = op != 7 && op != 9;
+        boolean namesB = op >= 1 && op <= 6;
+        boolean namesVariableC = op >= 1 && op <= 4;
+        boolean namesLineC = op >= 5 && op <= 7;
+        if (namesA && (a < 0 || a > 7) || namesB && (b < 0 || b > 7)
+                || namesVariableC && (c < 0 || c > 7) || namesLineC && (c < 0 || c > 10)) {
+            return false;
+        }
+        methods.get(m).add(new Line(op, a, b, c));
+        return true;
+    }
+
+    int start() {
+        if (started) {
+            return -1;
+        }
+        started = true;
+        for (int m = 0; m < 2; m++) {
+            for (int i = 0; i < methods.get(m).size(); i++) {
+                if (watched(m) && isBranch(m, i)) {
+                    branches.add(new Branch(m, i));
+                    archive.add(null);
+                    archive.add(null);
+                }
+            }
+        }
+        for (int k = 0; k < branches.size(); k++) {
+            needed.add(goalsNeededBy(k));
+        }
+        for (int n = 0; n < 2; n++) {
+            List<Step> fresh = drawCase();
+            population.add(fresh);
+            runAndArchive(fresh);
+        }
+        population = inOrder(population);
+        return goals();
+    }
+
+    boolean watched(int m) {
+        if (!started || m < 0 || m > 1) {
+            return false;
+        }
+        int size = methods.get(m).size();
+        for (int i = 0; i < methods.get(m).size(); i++) {
+            size += isBranch(m, i) ? 2 : 0;
+        }
+        return size <= 20;
+    }
+
+    boolean depends(int g, int h) {
+        if (!isGoal(g) || !isGoal(h)) {
+            return false;
+        }
+        Branch p = branches.get(g / 2);
+        Branch q = branches.get(h / 2);
+        return p.method == q.method
+                && postDominates(p.method, p.line, edges(q.method, q.line).get(h % 2))
+                && (p.line == q.line || !postDominates(p.method, p.line, q.line));
+    }
+
+    boolean put(int kind, int x, int y, int ref) {
+        boolean isCall = kind == 0 || kind == 1;
+        if (written.size() == 6 || !isCall && (kind < 4 || kind > 7)
+                || isCall && (ref < -1 || ref > written.size() - 1)) {
+            return false;
+        }
+        Step step = new Step();
+        step.kind = kind;
+        step.x = x;
+        if (isCall && ref == -1) {
+            step.y = y;
+        }
+        if (isCall && ref != -1) {
+            step.ref = written.get(ref);
+        }
+        written.add(step);
+        return true;
+    }
+
+    int run() {
+        if (!started || written.isEmpty()) {
+            return -1;
+        }
+        latest = written;
+        written = new ArrayList<>();
+        runAndArchive(latest);
+        return coveredBy(latest);
+    }
+
+    int evolve() {
+        if (!started) {
+            return -1;
+        }
+        List<Step> p = drawParent();
+        List<Step> q = drawParent();
+        int s = draw(p.size());
+        int t = draw(q.size());
+        // Copied each on its own, so that the steps of P and Q differ even where both are the same case.
+        List<Step> headP = copy(p);
+        List<Step> tailQ = copy(q);
+        List<Step> first = putTogether(headP.subList(0, s), tailQ.subList(t, q.size()));
+        List<Step> headQ = copy(q);
+        List<Step> tailP = copy(p);
+        List<Step> second = putTogether(headQ.subList(0, t), tailP.subList(s, p.size()));
+        List<List<Step>> all = new ArrayList<>(population);
+        for (List<Step> child : List.of(first, second)) {
+            change(child);
+            runAndArchive(child);
+            all.add(child);
+        }
+        all = inOrder(all);
+        population = all.subList(0, Math.min(5, all.size()));
+        return Integer.bitCount(found());
+    }
+
+    int finish() {
+        if (!started) {
+            return -1;
+        }
+        suite = new ArrayList<>();
+        for (int g = 0; g < goals(); g++) {
+            if (archive.get(g) != null && (reported() >> g & 1) == 0) {
+                suite.add(cut(archive.get(g), g));
+            }
+        }
+        for (List<Step> one : new ArrayList<>(suite)) {
+            int others = 0;
+            for (List<Step> other : suite) {
+                others |= other == one ? 0 : coveredBy(other);
+            }
+            if ((coveredBy(one) | others) == others) {
+                suite.removeIf(each -> each == one);
+            }
+        }
+        return suite.size();
+    }
+
+    int found() {
+        int set = 0;
+        for (int g = 0; g < archive.size(); g++) {
+            set |= archive.get(g) == null ? 0 : 1 << g;
+        }
+        return set;
+    }
+
+    int active() {
+        int set = 0;
+        for (int g = 0; g < goals(); g++) {
+            set |= isActive(g) ? 1 << g : 0;
+        }
+        return set;
+    }
+
+    int reported() {
+        int set = 0;
+        for (List<Step> one : suite) {
+            set |= coveredBy(one);
+        }
+        return set;
+    }
+
+    int length(int which) {
+        return named(which) == null ? 0 : named(which).size();
+    }
+
+    int step(int which, int j, int part) {
+        List<Step> one = named(which);
+        if (one == null || j < 0 || j >= one.size()) {
+            return 0;
+        }
+        Step step = one.get(j);
+        return part == 0 ? step.kind : part == 1 ? step.x : part == 2 ? step.y : part == 3 ? one.indexOf(step.ref) : 0;
+    }
+
+    int covers(int which) {
+        return named(which) == null ? 0 : coveredBy(named(which));
+    }
+
+    long fitness(int which, int g) {
+        return named(which) == null || !isGoal(g) ? -1 : fitnessOf(outcomeOf(named(which)), g);
+    }
+
+    long result(int which, int j) {
+        List<Step> one = named(which);
+        return one == null || j < 0 || j >= one.size() ? BASE + 4 : outcomeOf(one).results[j];
+    }
+
+    // ---- methods, ways and dependence ----
+
+    int goals() {
+        return 2 * branches.size();
+    }
+
+    private boolean isGoal(int g) {
+        return started && g >= 0 && g < goals();
+    }
+
+    private boolean isBranch(int m, int i) {
+        return methods.get(m).get(i).op == 5 || methods.get(m).get(i).op == 6;
+    }
+
+    /** Where line i may go on; for a branch by its outcomes 0 and 1. */
+    private List<Integer> edges(int m, int i) {
+        int end = methods.get(m).size();
+        Line line = methods.get(m).get(i);
+        int target = line.c < end ? line.c : end;
+        return switch (line.op) {
+            case 5, 6 -> List.of(i + 1, target);
+            case 7 -> List.of(target);
+            case 8, 9 -> List.of(end);
+            default -> List.of(i + 1);
+        };
+    }
+
+    private boolean postDominates(int m, int y, int x) {
+        List<Set<Integer>> ways = new ArrayList<>();
+        collectWays(m, x, new TreeSet<>(), ways);
+        return !ways.isEmpty() && ways.stream().allMatch(way -> way.contains(y));
+    }
+
+    /** All ways to END that pass no place twice: another way passes every place of one of these. */
+    private void collectWays(int m, int place, Set<Integer> before, List<Set<Integer>> ways) {
+        if (before.contains(place)) {
+            return;
+        }
+        Set<Integer> way = new TreeSet<>(before);
+        way.add(place);
+        if (place == methods.get(m).size()) {
+            ways.add(way);
+            return;
+        }
+        for (int next : edges(m, place)) {
+            collectWays(m, next, way, ways);
+        }
+    }
+
+    private Set<Integer> goalsNeededBy(int k) {
+        Set<Integer> goals = new TreeSet<>();
+        for (int h = 0; h < goals(); h++) {
+            if (depends(2 * k, h)) {
+                goals.add(h);
+            }
+        }
+        return goals;
+    }
+
+    private boolean isActive(int g) {
+        Branch branch = branches.get(g / 2);
+        Set<Integer> goals = needed.get(g / 2);
+        return archive.get(g) == null
+                && (goals.isEmpty() || goals.stream().anyMatch(h -> archive.get(h) != null)
+                        || postDominates(branch.method, branch.line, 0));
+    }
+
+    // ---- running and measuring ----
+
+    private void runAndArchive(List<Step> one) {
+        runs++;
+        Outcome outcome = outcomeOf(one);
+        for (int g = 0; g < goals(); g++) {
+            if (outcome.covers(g) && (archive.get(g) == null || archive.get(g).size() > one.size())) {
+                archive.set(g, one);
+            }
+        }
+    }
+
+    private int coveredBy(List<Step> one) {
+        Outcome outcome = outcomeOf(one);
+        int set = 0;
+        for (int g = 0; g < goals(); g++) {
+            set |= outcome.covers(g) ? 1 << g : 0;
+        }
+        return set;
+    }
+
+    private Outcome outcomeOf(List<Step> one) {
+        Outcome outcome = new Outcome(new long[one.size()], new java.util.TreeMap<>());
+        int[] v = new int[8];
+        Map<Step, Integer> values = new IdentityHashMap<>();
+        boolean timeIsUp = false;
+        for (int j = 0; j < one.size(); j++) {
+            Step step = one.get(j);
+            if (timeIsUp) {
+                outcome.results[j] = BASE;
+            } else if (step.kind >= 4) {
+                v[step.kind] = step.x;
+            } else {
+                v[0] = step.x;
+                v[1] = step.ref == null ? step.y : values.get(step.ref);
+                v[2] = 0;
+                v[3] = 0;
+                outcome.results[j] = call(step.kind, v, outcome.nearest);
+            }
+            timeIsUp |= outcome.results[j] == BASE + 3;
+            values.put(step, outcome.results[j] >= BASE ? 0 : (int) outcome.results[j]);
+        }
+        return outcome;
+    }
+
+    private long call(int m, int[] v, Map<Integer, Long> nearest) {
+        List<Line> lines = methods.get(m);
+        int i = 0;
+        int done = 0;
+        while (i < lines.size()) {
+            if (done == 40) {
+                return BASE + 3;
+            }
+            done++;
+            Line line = lines.get(i);
+            i++;
+            switch (line.op) {
+                case 0 -> v[line.a] = line.c;
+                case 1 -> v[line.a] = v[line.b] + v[line.c];
+                case 2 -> v[line.a] = v[line.b] - v[line.c];
+                case 3 -> v[line.a] = v[line.b] * v[line.c];
+                case 4 -> {
+                    if (v[line.c] == 0) {
+                        return BASE + 1;
+                    }
+                    v[line.a] = v[line.b] / v[line.c];
+                }
+                case 5, 6 -> {
+                    measure(m, i - 1, v[line.a], v[line.b], nearest);
+                    if (line.op == 5 ? v[line.a] == v[line.b] : v[line.a] < v[line.b]) {
+                        i = line.c;
+                    }
+                }
+                case 7 -> i = line.c;
+                case 8 -> {
+                    return v[line.a];
+                }
+                default -> {
+                    return BASE + 2;
+                }
+            }
+        }
+        return 0;
+    }
+
+    private void measure(int m, int i, long a, long b, Map<Integer, Long> nearest) {
+        int k = branches.indexOf(new Branch(m, i));
+        if (k < 0) {
+            return;
+        }
+        if (methods.get(m).get(i).op == 5) {
+            nearest.merge(2 * k, a != b ? 0L : 1L, Math::min);
+            nearest.merge(2 * k + 1, a > b ? a - b : b - a, Math::min);
+        } else {
+            nearest.merge(2 * k, a >= b ? 0L : b - a, Math::min);
+            nearest.merge(2 * k + 1, a < b ? 0L : a - b + 1, Math::min);
+        }
+    }
+
+    private long fitnessOf(Outcome outcome, int g) {
+        Map<Integer, Long> nearest = outcome.nearest;
+        if (nearest.containsKey(g)) {
+            return nearest.get(g);
+        }
+        Set<Integer> ends = Set.of(g);
+        for (int level = 1; level < 64 && !ends.isEmpty(); level++) {
+            Set<Integer> next = new TreeSet<>();
+            ends.forEach(end -> next.addAll(needed.get(end / 2)));
+            ends = next;
+            long least = ends.stream().filter(nearest::containsKey).mapToLong(nearest::get).min().orElse(-1);
+            if (least >= 0) {
+                return level * 8589934592L + least;
+            }
+        }
+        return 64 * 8589934592L;
+    }
+
+    // ---- drawing, breeding, order ----
+
+    private int draw(int n) {
+        state = (state * 25214903917L + 11) & 0xFFFFFFFFFFFFL;
+        return (int) ((state >> 17) % n);
+    }
+
+    private int drawNumber() {
+        List<Integer> constants = new ArrayList<>();
+        methods.forEach(lines -> lines.stream().filter(line -> line.op == 0).forEach(line -> constants.add(line.c)));
+        int k = draw(4);
+        return k == 0 || constants.isEmpty() ? draw(21) - 10 : constants.get(draw(constants.size())) + k - 2;
+    }
+
+    /** A step for the place behind the steps given. */
+    private Step drawStep(List<Step> before) {
+        Step step = new Step();
+        int k = draw(5);
+        step.kind = k == 4 ? 4 + draw(4) : k / 2;
+        step.x = drawNumber();
+        if (k != 4) {
+            int r = draw(before.size() + 2);
+            if (r < before.size()) {
+                step.ref = before.get(r);
+            } else {
+                step.y = drawNumber();
+            }
+        }
+        return step;
+    }
+
+    private List<Step> drawCase() {
+        List<Step> fresh = new ArrayList<>();
+        int count = 1 + draw(2);
+        while (fresh.size() < count) {
+            fresh.add(drawStep(fresh));
+        }
+        return fresh;
+    }
+
+    private List<Step> drawParent() {
+        int i = draw(population.size());
+        int j = draw(population.size());
+        return population.get(i < j ? i : j);
+    }
+
+    private static List<Step> copy(List<Step> one) {
+        List<Step> copies = new ArrayList<>();
+        for (Step step : one) {
+            Step copy = new Step();
+            copy.kind = step.kind;
+            copy.x = step.x;
+            copy.y = step.y;
+            copy.ref = step.ref == null ? null : copies.get(one.indexOf(step.ref));
+            copies.add(copy);
+        }
+        return copies;
+    }
+
+    private static List<Step> putTogether(List<Step> head, List<Step> tail) {
+        List<Step> child = new ArrayList<>(head);
+        child.addAll(tail);
+        while (child.size() > 6) {
+            child.remove(6);
+        }
+        dropLostLinks(child);
+        return child;
+    }
+
+    private static void dropLostLinks(List<Step> one) {
+        for (Step step : one) {
+            if (step.ref != null && !one.contains(step.ref)) {
+                step.ref = null;
+                step.y = 0;
+            }
+        }
+    }
+
+    private void change(List<Step> child) {
+        int k = draw(3);
+        if (k == 0 && child.size() < 6) {
+            int p = draw(child.size() + 1);
+            child.add(p, drawStep(child.subList(0, p)));
+        } else if (k == 1 && child.size() > 1) {
+            child.remove(draw(child.size()));
+            dropLostLinks(child);
+        } else if (k == 2) {
+            Step step = child.get(draw(child.size()));
+            int u = draw(3);
+            if (u == 0) {
+                step.x = drawNumber();
+            } else if (u == 1) {
+                step.x = step.x + draw(9) - 4;
+            } else if (step.kind < 2) {
+                step.ref = null;
+                step.y = drawNumber();
+            }
+        }
+    }
+
+    /** A case on its way through the ordering, with its fitness for each active goal. */
+    private record Ranked(List<Step> steps, List<Long> fitness, int before) {
+        long nearerThan(Ranked other) {
+            long count = 0;
+            for (int n = 0; n < fitness.size(); n++) {
+                count += fitness.get(n) < other.fitness.get(n) ? 1 : 0;
+            }
+            return count;
+        }
+
+        boolean beats(Ranked other) {
+            return nearerThan(other) > 0 && other.nearerThan(this) == 0;
+        }
+    }
+
+    private List<List<Step>> inOrder(List<List<Step>> cases) {
+        List<Ranked> left = new ArrayList<>();
+        int active = active();
+        for (List<Step> one : cases) {
+            Outcome outcome = outcomeOf(one);
+            List<Long> fitness = new ArrayList<>();
+            for (int g = 0; g < goals(); g++) {
+                if ((active >> g & 1) == 1) {
+                    fitness.add(fitnessOf(outcome, g));
+                }
+            }
+            left.add(new Ranked(one, fitness, left.size()));
+        }
+        List<List<Step>> ordered = new ArrayList<>();
+        List<Ranked> front = preferred(left, Integer.bitCount(active));
+        while (true) {
+            left.removeAll(front);
+            sorted(front).forEach(one -> ordered.add(one.steps));
+            if (left.isEmpty()) {
+                return ordered;
+            }
+            List<Ranked> others = List.copyOf(left);
+            front = new ArrayList<>(left);
+            front.removeIf(one -> others.stream().anyMatch(other -> other.beats(one)));
+        }
+    }
+
+    private static List<Ranked> preferred(List<Ranked> all, int activeCount) {
+        List<Ranked> front = new ArrayList<>();
+        for (int n = 0; n < activeCount; n++) {
+            int goal = n;
+            Ranked best = least(all, one -> one.fitness.get(goal), one -> one.steps.size(), one -> one.before);
+            if (!front.contains(best)) {
+                front.add(best);
+            }
+        }
+        return front;
+    }
+
+    private static List<Ranked> sorted(List<Ranked> front) {
+        List<Ranked> rest = new ArrayList<>(front);
+        List<Ranked> sorted = new ArrayList<>();
+        while (!rest.isEmpty()) {
+            Ranked next = least(rest, one -> front.stream().mapToLong(other -> other.nearerThan(one)).max().orElse(0),
+                    one -> one.steps.size(), one -> one.before);
+            rest.remove(next);
+            sorted.add(next);
+        }
+        return sorted;
+    }
+
+    private static Ranked least(List<Ranked> all, ToLongFunction<Ranked> a, ToLongFunction<Ranked> b,
+            ToLongFunction<Ranked> c) {
+        return all.stream()
+                .min(java.util.Comparator.comparingLong(a).thenComparingLong(b).thenComparingLong(c))
+                .orElseThrow();
+    }
+
+    // ---- the suite and the names of cases ----
+
+    private List<Step> cut(List<Step> whole, int g) {
+        List<Step> left = new ArrayList<>(whole);
+        for (int j = whole.size() - 1; j >= 0; j--) {
+            Step step = whole.get(j);
+            if (left.size() > 1 && left.stream().noneMatch(other -> other.ref == step)) {
+                List<Step> trial = new ArrayList<>(left);
+                trial.remove(step);
+                runs++;
+                if (outcomeOf(trial).covers(g)) {
+                    left = trial;
+                }
+            }
+        }
+        return left;
+    }
+
+    private List<Step> named(int which) {
+        if (which == -1) {
+            return latest;
+        }
+        List<List<Step>> row = which < 100 ? population : which < 200 ? archive : suite;
+        int number = which < 100 ? which : which < 200 ? which - 100 : which - 200;
+        return number < 0 || number >= row.size() ? null : row.get(number);
+    }
+}
