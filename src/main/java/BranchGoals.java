@@ -558,7 +558,7 @@ public final class BranchGoals {
 
         int draw(int n) {
             bits = bits * DRAW_FACTOR + 11 & DRAW_MASK;
-            return (int) ((bits >>> 17) % n);
+            return n < 1 ? 0 : (int) ((bits >>> 17) % n);
         }
 
         int drawNumber() {

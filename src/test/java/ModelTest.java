@@ -69,6 +69,10 @@ final class ModelTest {
     }
 
     private void writeMethods() {
+        if (any(8) == 0) {
+            writeMostGoals();
+            return;
+        }
         for (int m = 0; m < 2; m++) {
             int lines = any(5) == 0 ? any(12) : 3 + any(8);
             int flavour = any(3);
@@ -82,6 +86,19 @@ final class ModelTest {
                 if (any(40) == 0) {
                     addLine(any(4) - 1, any(12) - 1, any(10) - 1, any(10) - 1, any(13) - 1);
                 }
+            }
+        }
+    }
+
+    /** Both methods with six branches, as many as a watched one can have: 24 goals. */
+    private void writeMostGoals() {
+        for (int m = 0; m < 2; m++) {
+            int other = any(8);
+            for (int i = 0; i < 8; i++) {
+                boolean isOther = i == other || i == (other + 3) % 8;
+                int op = isOther ? anyOf(0, 1, 2, 8, 7) : anyOf(5, 6);
+                int c = op == 0 ? anyNumber() : op < 5 ? any(8) : Math.min(10, i + 1 + any(4));
+                addLine(m, op, any(8), any(8), c);
             }
         }
     }

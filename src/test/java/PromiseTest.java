@@ -51,6 +51,7 @@ final class PromiseTest {
         test.runKeepsThePopulation();
         test.evolveGrows();
         test.evolveFinds();
+        test.mostGoals();
         test.finishCuts();
         test.finishDrops();
         test.finishAnew();
@@ -386,6 +387,32 @@ final class PromiseTest {
                 due("evolve: a step with a ref has y 0", ref == -1 || object.step(which, j, 2) == 0, true);
             }
         }
+    }
+
+    /** Six branches in each method, each a call apart: v0 equals exactly one of the fields or none. */
+    private void mostGoals() {
+        int[][] six = {{IFEQ, 0, 4, 8}, {IFEQ, 0, 5, 8}, {IFEQ, 0, 6, 8}, {IFEQ, 0, 7, 8}, {IFEQ, 0, 1, 8},
+            {IFLT, 0, 1, 8}, {ADD, 4, 4, 0}, {RETURN, 0, 0, 0}};
+        BranchGoals object = written(2, six, six);
+        due("most goals: start", object.start(), 24);
+        for (int kind = 0; kind < 2; kind++) {
+            for (int field = 4; field < 8; field++) {
+                object.put(field, 9, 0, -1);
+                runCall(object, kind, 9, 0);
+            }
+            runCall(object, kind, 9, 9);
+            runCall(object, kind, 9, 10);
+            runCall(object, kind, 9, 8);
+        }
+        due("most goals: all found", object.found(), (1 << 24) - 1);
+        due("most goals: none active", object.active(), 0);
+        due("most goals: evolve", object.evolve(), 24);
+        due("most goals: the last goal's case covers it", object.covers(123) >> 23, 1);
+        due("most goals: the last goal's fitness", object.fitness(123, 23), 0);
+        due("most goals: no further goal", object.fitness(123, 24), -1);
+        due("most goals: no further archived", object.length(124), 0);
+        due("most goals: a suite", object.finish() >= 14, true);
+        due("most goals: all reported", object.reported(), (1 << 24) - 1);
     }
 
     // ---- promise 9 ----
