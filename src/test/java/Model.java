@@ -1,14 +1,21 @@
 import java.util.ArrayList;
+import java.util.Collections;
+import java.util.Comparator;
 import java.util.IdentityHashMap;
 import java.util.List;
 import java.util.Map;
 import java.util.Set;
+import java.util.TreeMap;
 import java.util.TreeSet;
 import java.util.function.ToLongFunction;
+import java.util.stream.IntStream;
 
 /**
  * The document once more, in its own words and by other means than the program: a REF is a link to the
  * step it means, post-domination lists all ways, and cases are run anew whenever they are asked about.
+ *
+ * <p>It can be made with a fault, and then breaks one sentence of the document: so a test can show that
+ * it would see the program breaking that sentence.
  */
 final class Model {
     /** One step; links are followed by identity, so references follow by themselves. */
@@ -47,8 +54,19 @@ final class Model {
     int runs = 0;
     long state;
 
+    private final Fault fault;
+
     Model(int seed) {
+        this(seed, null);
+    }
+
+    Model(int seed, Fault fault) {
+        this.fault = fault;
         state = ((long) seed ^ 25214903917L) & 0xFFFFFFFFFFFFL;
+    }
+
+    private boolean breaks(Fault one) {
+        return fault == one;
     }
 
     // ---- the face ----
@@ -91,7 +109,7 @@ final class Model {
             population.add(fresh);
             runAndArchive(fresh);
         }
-        population = inOrder(population);
+        population = inOrder(population, active());
         return goals();
     }
 
@@ -150,25 +168,26 @@ final class Model {
         if (!started) {
             return -1;
         }
+        int activeBefore = active();
         List<Step> p = drawParent();
         List<Step> q = drawParent();
-        int s = draw(p.size());
-        int t = draw(q.size());
-        // Copied each on its own, so that the steps of P and Q differ even where both are the same case.
-        List<Step> headP = copy(p);
-        List<Step> tailQ = copy(q);
-        List<Step> first = putTogether(headP.subList(0, s), tailQ.subList(t, q.size()));
-        List<Step> headQ = copy(q);
-        List<Step> tailP = copy(p);
-        List<Step> second = putTogether(headQ.subList(0, t), tailP.subList(s, p.size()));
-        List<List<Step>> all = new ArrayList<>(population);
-        for (List<Step> child : List.of(first, second)) {
+        int s = draw(p.size()) + (breaks(Fault.CUT_BEHIND_THE_STEP) ? 1 : 0);
+        int t = draw(q.size()) + (breaks(Fault.CUT_BEHIND_THE_STEP) ? 1 : 0);
+        List<Step> first = putTogether(p, s, q, t);
+        List<Step> second = putTogether(q, t, p, s);
+        for (List<Step> child : breaks(Fault.SECOND_CHILD_FIRST) ? List.of(second, first) : List.of(first, second)) {
             change(child);
-            runAndArchive(child);
-            all.add(child);
+            if (breaks(Fault.CHILDREN_NOT_ARCHIVED)) {
+                runs++;
+            } else {
+                runAndArchive(child);
+            }
         }
-        all = inOrder(all);
-        population = all.subList(0, Math.min(5, all.size()));
+        List<List<Step>> all = new ArrayList<>(population);
+        all.add(first);
+        all.add(second);
+        all = inOrder(all, breaks(Fault.ORDER_BY_EARLIER_GOALS) ? activeBefore : active());
+        population = all.subList(0, Math.min(breaks(Fault.SIX_IN_THE_POPULATION) ? 6 : 5, all.size()));
         return Integer.bitCount(found());
     }
 
@@ -176,12 +195,24 @@ final class Model {
         if (!started) {
             return -1;
         }
-        suite = new ArrayList<>();
-        for (int g = 0; g < goals(); g++) {
-            if (archive.get(g) != null && (reported() >> g & 1) == 0) {
+        suite = breaks(Fault.SUITE_GROWS) ? suite : new ArrayList<>();
+        for (int n = 0; n < goals(); n++) {
+            int g = breaks(Fault.FALLING_ORDER) ? goals() - 1 - n : n;
+            boolean isCovered = (reported() >> g & 1) == 1 && !breaks(Fault.EVERY_FOUND_GOAL);
+            if (archive.get(g) != null && !isCovered) {
                 suite.add(cut(archive.get(g), g));
             }
         }
+        if (!breaks(Fault.NONE_DROPPED)) {
+            dropNeedless();
+        }
+        if (breaks(Fault.OTHERS_TURNED_ROUND)) {
+            Collections.reverse(suite);
+        }
+        return suite.size();
+    }
+
+    private void dropNeedless() {
         for (List<Step> one : new ArrayList<>(suite)) {
             int others = 0;
             for (List<Step> other : suite) {
@@ -191,7 +222,6 @@ final class Model {
                 suite.removeIf(each -> each == one);
             }
         }
-        return suite.size();
     }
 
     int found() {
@@ -317,10 +347,17 @@ final class Model {
         runs++;
         Outcome outcome = outcomeOf(one);
         for (int g = 0; g < goals(); g++) {
-            if (outcome.covers(g) && (archive.get(g) == null || archive.get(g).size() > one.size())) {
+            if (outcome.covers(g) && (archive.get(g) == null || isShorter(one, archive.get(g)))) {
                 archive.set(g, one);
             }
         }
+    }
+
+    private boolean isShorter(List<Step> one, List<Step> archived) {
+        if (breaks(Fault.ARCHIVED_STAYS)) {
+            return false;
+        }
+        return one.size() < archived.size() || breaks(Fault.ARCHIVED_FOR_AS_MANY_STEPS) && one.size() == archived.size();
     }
 
     private int coveredBy(List<Step> one) {
@@ -333,7 +370,7 @@ final class Model {
     }
 
     private Outcome outcomeOf(List<Step> one) {
-        Outcome outcome = new Outcome(new long[one.size()], new java.util.TreeMap<>());
+        Outcome outcome = new Outcome(new long[one.size()], new TreeMap<>());
         int[] v = new int[8];
         Map<Step, Integer> values = new IdentityHashMap<>();
         boolean timeIsUp = false;
@@ -431,15 +468,37 @@ final class Model {
     // ---- drawing, breeding, order ----
 
     private int draw(int n) {
-        state = (state * 25214903917L + 11) & 0xFFFFFFFFFFFFL;
-        return (int) ((state >> 17) % n);
+        long next = state * 25214903917L + 11;
+        state = breaks(Fault.STATE_NOT_CUT) ? next : next & 0xFFFFFFFFFFFFL;
+        long bits = breaks(Fault.LOWEST_BITS_DRAWN) ? next & 0x7FFFFFFFL : (next & 0xFFFFFFFFFFFFL) >> 17;
+        return (int) (bits % n);
     }
 
     private int drawNumber() {
-        List<Integer> constants = new ArrayList<>();
-        methods.forEach(lines -> lines.stream().filter(line -> line.op == 0).forEach(line -> constants.add(line.c)));
+        List<Integer> constants = constants();
         int k = draw(4);
-        return k == 0 || constants.isEmpty() ? draw(21) - 10 : constants.get(draw(constants.size())) + k - 2;
+        if (constants.isEmpty()) {
+            return k != 0 && breaks(Fault.NUMBER_WITHOUT_SET) ? k - 2 : draw(21) - 10;
+        }
+        if (k == 0 && !breaks(Fault.NUMBER_WITHOUT_K_0)) {
+            return draw(21) - 10;
+        }
+        long number = (long) constants.get(draw(constants.size())) + k - 2;
+        return breaks(Fault.NUMBER_STOPS_AT_THE_EDGE) ? stopped(number) : (int) number;
+    }
+
+    private List<Integer> constants() {
+        List<Integer> constants = new ArrayList<>();
+        for (int m : breaks(Fault.SETS_OF_METHOD_1_FIRST) ? List.of(1, 0) : List.of(0, 1)) {
+            if (watched(m) || !breaks(Fault.SETS_OF_WATCHED_ALONE)) {
+                methods.get(m).stream().filter(line -> line.op == 0).forEach(line -> constants.add(line.c));
+            }
+        }
+        return constants;
+    }
+
+    private static int stopped(long number) {
+        return (int) Math.max(Integer.MIN_VALUE, Math.min(Integer.MAX_VALUE, number));
     }
 
     /** A step for the place behind the steps given. */
@@ -449,21 +508,24 @@ final class Model {
         step.kind = k == 4 ? 4 + draw(4) : k / 2;
         step.x = drawNumber();
         if (k != 4) {
-            int r = draw(before.size() + 2);
+            int r = draw(before.size() + (breaks(Fault.REF_OF_ONE_LESS) ? 1 : 2));
             if (r < before.size()) {
                 step.ref = before.get(r);
             } else {
                 step.y = drawNumber();
             }
         }
+        if (k == 4 && breaks(Fault.FIELD_STEP_DRAWS_Y) || step.ref != null && breaks(Fault.REF_STEP_DRAWS_Y)) {
+            drawNumber();
+        }
         return step;
     }
 
     private List<Step> drawCase() {
         List<Step> fresh = new ArrayList<>();
-        int count = 1 + draw(2);
+        int count = 1 + draw(breaks(Fault.CASE_OF_ONE_STEP_MORE) ? 3 : 2);
         while (fresh.size() < count) {
-            fresh.add(drawStep(fresh));
+            fresh.add(drawStep(breaks(Fault.PLACE_IS_ALWAYS_0) ? List.of() : fresh));
         }
         return fresh;
     }
@@ -471,7 +533,7 @@ final class Model {
     private List<Step> drawParent() {
         int i = draw(population.size());
         int j = draw(population.size());
-        return population.get(i < j ? i : j);
+        return population.get(i < j != breaks(Fault.PARENT_BY_THE_GREATER) ? i : j);
     }
 
     private static List<Step> copy(List<Step> one) {
@@ -487,11 +549,22 @@ final class Model {
         return copies;
     }
 
-    private static List<Step> putTogether(List<Step> head, List<Step> tail) {
-        List<Step> child = new ArrayList<>(head);
-        child.addAll(tail);
-        while (child.size() > 6) {
+    /** Both parents are copied, so that their steps are different ones even where they are the same case. */
+    private List<Step> putTogether(List<Step> p, int s, List<Step> q, int t) {
+        List<Step> from = copy(q);
+        List<Step> child = new ArrayList<>(copy(p).subList(0, s));
+        child.addAll(from.subList(t, q.size()));
+        while (child.size() > 6 && !breaks(Fault.SEVENTH_STEP_STAYS)) {
             child.remove(6);
+        }
+        for (Step step : child) {
+            int number = step.ref == null ? -1 : from.indexOf(step.ref);
+            boolean isLost = !child.contains(step.ref);
+            if (number >= 0 && (breaks(Fault.JOINED_REF_KEEPS_ITS_NUMBER) && !isLost
+                    || breaks(Fault.REF_TO_THE_OTHER_PARENT) && isLost
+                    || breaks(Fault.REF_TO_THE_SAME_CASE) && isLost && p == q && number < s)) {
+                linkByNumber(child, step, number);
+            }
         }
         dropLostLinks(child);
         return child;
@@ -506,75 +579,148 @@ final class Model {
         }
     }
 
+    /** Only for faults: a REF that means whatever step now has the number. */
+    private static void linkByNumber(List<Step> one, Step step, int number) {
+        step.ref = number < one.indexOf(step) ? one.get(number) : null;
+    }
+
+    private static Map<Step, Integer> numbersOfRefs(List<Step> one) {
+        Map<Step, Integer> numbers = new IdentityHashMap<>();
+        one.forEach(step -> numbers.put(step, one.indexOf(step.ref)));
+        return numbers;
+    }
+
     private void change(List<Step> child) {
         int k = draw(3);
-        if (k == 0 && child.size() < 6) {
-            int p = draw(child.size() + 1);
-            child.add(p, drawStep(child.subList(0, p)));
-        } else if (k == 1 && child.size() > 1) {
-            child.remove(draw(child.size()));
-            dropLostLinks(child);
-        } else if (k == 2) {
-            Step step = child.get(draw(child.size()));
-            int u = draw(3);
-            if (u == 0) {
-                step.x = drawNumber();
-            } else if (u == 1) {
-                step.x = step.x + draw(9) - 4;
-            } else if (step.kind < 2) {
-                step.ref = null;
-                step.y = drawNumber();
+        if (k == 0) {
+            if (child.size() < 6 || breaks(Fault.STEP_PUT_INTO_SIX)) {
+                putIn(child);
+            } else if (breaks(Fault.PLACE_DRAWN_THOUGH_FULL)) {
+                draw(child.size() + 1);
             }
+        } else if (k == 1) {
+            if (child.size() > 1) {
+                takeOut(child);
+            } else if (breaks(Fault.ONLY_STEP_DRAWN)) {
+                draw(child.size());
+            }
+        } else {
+            changeStep(child.get(draw(child.size())));
         }
     }
 
-    /** A case on its way through the ordering, with its fitness for each active goal. */
-    private record Ranked(List<Step> steps, List<Long> fitness, int before) {
+    private void putIn(List<Step> child) {
+        Map<Step, Integer> numbers = numbersOfRefs(child);
+        int p = draw(breaks(Fault.NO_STEP_PUT_AT_THE_END) ? child.size() : child.size() + 1);
+        Step fresh = drawStep(child.subList(0, breaks(Fault.STEP_DRAWN_FOR_THE_LAST_PLACE) ? child.size() : p));
+        fresh.ref = child.indexOf(fresh.ref) < p ? fresh.ref : null;
+        child.add(p, fresh);
+        numbers.forEach((step, number) -> {
+            if (number >= p && breaks(Fault.REF_STAYS_WHEN_MOVED_UP)) {
+                linkByNumber(child, step, number);
+            }
+        });
+    }
+
+    private void takeOut(List<Step> child) {
+        Map<Step, Integer> numbers = numbersOfRefs(child);
+        int p = draw(child.size());
+        numbers.remove(child.remove(p));
+        numbers.forEach((step, number) -> {
+            if (number > p && breaks(Fault.REF_STAYS_WHEN_MOVED_DOWN)
+                    || number == p && breaks(Fault.REF_TO_WHAT_WAS_TAKEN_OUT)) {
+                linkByNumber(child, step, number);
+            }
+        });
+        dropLostLinks(child);
+    }
+
+    private void changeStep(Step step) {
+        int u = draw(3);
+        if (u == 0) {
+            step.x = drawNumber();
+        } else if (u == 1) {
+            long number = (long) step.x + draw(9) - 4;
+            step.x = breaks(Fault.X_STOPS_AT_THE_EDGE) ? stopped(number) : (int) number;
+        } else if (step.kind < 2) {
+            step.ref = breaks(Fault.REF_STAYS_BESIDE_Y) ? step.ref : null;
+            step.y = drawNumber();
+        } else if (breaks(Fault.Y_DRAWN_FOR_A_FIELD)) {
+            drawNumber();
+        }
+    }
+
+    /** A case on its way through the ordering, with its fitness for each active goal; only a fault looks at the others. */
+    private record Ranked(List<Step> steps, List<Long> fitness, List<Long> ofFoundGoals, int before) {
         long nearerThan(Ranked other) {
+            return smaller(fitness, other.fitness);
+        }
+
+        static long smaller(List<Long> some, List<Long> others) {
             long count = 0;
-            for (int n = 0; n < fitness.size(); n++) {
-                count += fitness.get(n) < other.fitness.get(n) ? 1 : 0;
+            for (int n = 0; n < some.size(); n++) {
+                count += some.get(n) < others.get(n) ? 1 : 0;
             }
             return count;
         }
-
-        boolean beats(Ranked other) {
-            return nearerThan(other) > 0 && other.nearerThan(this) == 0;
-        }
     }
 
-    private List<List<Step>> inOrder(List<List<Step>> cases) {
-        List<Ranked> left = new ArrayList<>();
-        int active = active();
-        for (List<Step> one : cases) {
-            Outcome outcome = outcomeOf(one);
-            List<Long> fitness = new ArrayList<>();
-            for (int g = 0; g < goals(); g++) {
-                if ((active >> g & 1) == 1) {
-                    fitness.add(fitnessOf(outcome, g));
-                }
-            }
-            left.add(new Ranked(one, fitness, left.size()));
+    private List<List<Step>> inOrder(List<List<Step>> cases, int active) {
+        if (active == 0 && breaks(Fault.NO_ORDER_WITHOUT_ACTIVE_GOALS)) {
+            return cases;
         }
+        List<Ranked> all = ranked(cases, active);
+        List<Ranked> left = new ArrayList<>(all);
         List<List<Step>> ordered = new ArrayList<>();
-        List<Ranked> front = preferred(left, Integer.bitCount(active));
-        while (true) {
+        List<Ranked> front = breaks(Fault.PREFERRED_ARE_NOT_FRONT_0) ? List.of() : preferred(all, Integer.bitCount(active));
+        for (int number = 1; ; number++) {
             left.removeAll(front);
-            sorted(front).forEach(one -> ordered.add(one.steps));
+            sorted(front, all).forEach(one -> ordered.add(one.steps));
             if (left.isEmpty()) {
                 return ordered;
             }
-            List<Ranked> others = List.copyOf(left);
+            List<Ranked> others = breaks(Fault.BEATEN_BY_FRONT_0) ? all : List.copyOf(left);
             front = new ArrayList<>(left);
-            front.removeIf(one -> others.stream().anyMatch(other -> other.beats(one)));
+            front.removeIf(one -> others.stream().anyMatch(other -> beats(other, one)));
+            if (front.isEmpty() || number == 2 && breaks(Fault.ALL_BEATEN_ARE_FRONT_2)) {
+                front = new ArrayList<>(left);
+            }
         }
     }
 
-    private static List<Ranked> preferred(List<Ranked> all, int activeCount) {
+    private List<Ranked> ranked(List<List<Step>> cases, int active) {
+        List<Ranked> all = new ArrayList<>();
+        for (List<Step> one : cases) {
+            Outcome outcome = outcomeOf(one);
+            List<Long> fitness = new ArrayList<>();
+            List<Long> ofFoundGoals = new ArrayList<>();
+            for (int g = 0; g < goals(); g++) {
+                if ((active >> g & 1) == 1) {
+                    fitness.add(fitnessOf(outcome, g));
+                } else if (breaks(Fault.CROWD_OF_FOUND_GOALS)) {
+                    ofFoundGoals.add(fitnessOf(outcome, g));
+                }
+            }
+            all.add(new Ranked(one, fitness, ofFoundGoals, all.size()));
+        }
+        return all;
+    }
+
+    private boolean beats(Ranked one, Ranked other) {
+        if (breaks(Fault.BEATEN_THOUGH_NEARER_ONCE)) {
+            return one.nearerThan(other) > other.nearerThan(one);
+        }
+        boolean isNearer = one.nearerThan(other) > 0 || breaks(Fault.BEATEN_BY_ITS_EQUAL) && one.before < other.before;
+        return isNearer && other.nearerThan(one) == 0;
+    }
+
+    private List<Ranked> preferred(List<Ranked> all, int activeCount) {
         List<Ranked> front = new ArrayList<>();
         for (int n = 0; n < activeCount; n++) {
             int goal = n;
-            Ranked best = least(all, one -> one.fitness.get(goal), one -> one.steps.size(), one -> one.before);
+            Ranked best = least(all, one -> one.fitness.get(goal),
+                    one -> breaks(Fault.PREFERRED_WITHOUT_STEPS) ? 0 : one.steps.size(),
+                    one -> breaks(Fault.PREFERRED_IS_THE_LATEST) ? -one.before : one.before);
             if (!front.contains(best)) {
                 front.add(best);
             }
@@ -582,22 +728,39 @@ final class Model {
         return front;
     }
 
-    private static List<Ranked> sorted(List<Ranked> front) {
+    private List<Ranked> sorted(List<Ranked> front, List<Ranked> all) {
         List<Ranked> rest = new ArrayList<>(front);
         List<Ranked> sorted = new ArrayList<>();
+        ToLongFunction<Ranked> crowd = one -> crowdOf(one, breaks(Fault.CROWD_OF_ALL_FRONTS) ? all : front);
+        ToLongFunction<Ranked> steps = one -> breaks(Fault.STEPS_NOT_LOOKED_AT) ? 0 : one.steps.size();
+        ToLongFunction<Ranked> before = one -> breaks(Fault.LATER_BEFORE_EARLIER) ? -one.before : one.before;
         while (!rest.isEmpty()) {
-            Ranked next = least(rest, one -> front.stream().mapToLong(other -> other.nearerThan(one)).max().orElse(0),
-                    one -> one.steps.size(), one -> one.before);
+            Ranked next = breaks(Fault.STEPS_BEFORE_CROWD)
+                    ? least(rest, steps, crowd, before) : least(rest, crowd, steps, before);
             rest.remove(next);
             sorted.add(next);
         }
         return sorted;
     }
 
+    private long crowdOf(Ranked one, List<Ranked> others) {
+        if (breaks(Fault.CROWD_NOT_LOOKED_AT)) {
+            return 0;
+        }
+        if (breaks(Fault.CROWD_OF_SEVERAL_CASES)) {
+            return IntStream.range(0, one.fitness.size())
+                    .filter(n -> others.stream().anyMatch(other -> other.fitness.get(n) < one.fitness.get(n)))
+                    .count();
+        }
+        return others.stream()
+                .mapToLong(other -> other.nearerThan(one) + Ranked.smaller(other.ofFoundGoals, one.ofFoundGoals))
+                .max().orElse(0);
+    }
+
     private static Ranked least(List<Ranked> all, ToLongFunction<Ranked> a, ToLongFunction<Ranked> b,
             ToLongFunction<Ranked> c) {
         return all.stream()
-                .min(java.util.Comparator.comparingLong(a).thenComparingLong(b).thenComparingLong(c))
+                .min(Comparator.comparingLong(a).thenComparingLong(b).thenComparingLong(c))
                 .orElseThrow();
     }
 
@@ -605,18 +768,32 @@ final class Model {
 
     private List<Step> cut(List<Step> whole, int g) {
         List<Step> left = new ArrayList<>(whole);
-        for (int j = whole.size() - 1; j >= 0; j--) {
-            Step step = whole.get(j);
-            if (left.size() > 1 && left.stream().noneMatch(other -> other.ref == step)) {
-                List<Step> trial = new ArrayList<>(left);
-                trial.remove(step);
-                runs++;
-                if (outcomeOf(trial).covers(g)) {
-                    left = trial;
-                }
+        for (int n = whole.size() - 1; n >= 0 && !breaks(Fault.NOTHING_CUT); n--) {
+            Step step = whole.get(breaks(Fault.CUT_FROM_THE_FIRST) ? whole.size() - 1 - n : n);
+            List<Step> referring = breaks(Fault.TAKEN_OUT_REFERS_STILL) ? whole : left;
+            boolean isReferredTo = referring.stream().anyMatch(other -> other.ref == step);
+            if (left.size() == 1 || isReferredTo) {
+                runs += left.size() == 1 && breaks(Fault.ONLY_STEP_TRIED) ? 1 : 0;
+                runs += left.size() > 1 && breaks(Fault.REFERRED_TO_TRIED) ? 1 : 0;
+                continue;
+            }
+            List<Step> trial = new ArrayList<>(left);
+            trial.remove(step);
+            tryOut(trial);
+            boolean losesGoals = breaks(Fault.CUT_FOR_ALL_ITS_GOALS) && (coveredBy(left) & ~coveredBy(trial)) != 0;
+            if (outcomeOf(trial).covers(g) && !losesGoals) {
+                left = trial;
             }
         }
         return left;
+    }
+
+    private void tryOut(List<Step> trial) {
+        if (breaks(Fault.TRIAL_ARCHIVED)) {
+            runAndArchive(trial);
+        } else {
+            runs++;
+        }
     }
 
     private List<Step> named(int which) {

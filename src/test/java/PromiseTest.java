@@ -1,37 +1,5 @@
 /** Each promise by itself: ordinary inputs, the edges that the document names, and wrong inputs. */
-final class PromiseTest {
-    private static final int SET = 0;
-    private static final int ADD = 1;
-    private static final int SUB = 2;
-    private static final int MUL = 3;
-    private static final int DIV = 4;
-    private static final int IFEQ = 5;
-    private static final int IFLT = 6;
-    private static final int GO = 7;
-    private static final int RETURN = 8;
-    private static final int FAIL = 9;
-
-    private static final int MIN = Integer.MIN_VALUE;
-    private static final int MAX = Integer.MAX_VALUE;
-    private static final long BASE = 4294967296L;
-    private static final long LEVEL = 8589934592L;
-    private static final long MASK = (1L << 48) - 1;
-
-    private static final int[][] NO_LINES = {};
-    /** Goal 1 when x = y; a loop is not in it. */
-    private static final int[][] ONE_IF = {{IFEQ, 0, 1, 2}, {RETURN, 0, 0, 0}, {RETURN, 1, 0, 0}};
-    /** Counts v2 up to x: a call with x > 0 covers goals 0 and 1, one with x <= 0 only goal 0. */
-    private static final int[][] COUNT_UP = {
-        {IFLT, 2, 0, 2}, {RETURN, 2, 0, 0}, {SET, 3, 0, 1}, {ADD, 2, 2, 3}, {GO, 0, 0, 0}};
-    /** Branch 1 depends on goal 1, branch 2 on goal 3. */
-    private static final int[][] CHAIN = {
-        {IFEQ, 0, 1, 2}, {RETURN, 0, 0, 0}, {IFEQ, 0, 4, 4}, {RETURN, 0, 0, 0}, {IFLT, 5, 0, 6}, {RETURN, 0, 0, 0}};
-    /** Branch 2 can be reached by goal 1 and by goal 3. */
-    private static final int[][] TWO_WAYS = {
-        {IFEQ, 0, 1, 3}, {IFEQ, 0, 4, 3}, {RETURN, 0, 0, 0}, {IFLT, 0, 5, 5}, {RETURN, 0, 0, 0}};
-
-    private final Checks checks = new Checks();
-
+final class PromiseTest extends Bench {
     private PromiseTest() {
     }
 
@@ -69,54 +37,6 @@ final class PromiseTest {
         test.runsCounted();
         test.stateOfDraws();
         test.checks.end();
-    }
-
-    // ---- helpers ----
-
-    private void due(String what, long got, long want) {
-        checks.due(what, got, want);
-    }
-
-    private void due(String what, boolean got, boolean want) {
-        checks.due(what, got, want);
-    }
-
-    private static BranchGoals written(int seed, int[][] zero, int[][] one) {
-        BranchGoals object = new BranchGoals(seed);
-        for (int[] line : zero) {
-            object.line(0, line[0], line[1], line[2], line[3]);
-        }
-        for (int[] line : one) {
-            object.line(1, line[0], line[1], line[2], line[3]);
-        }
-        return object;
-    }
-
-    private static BranchGoals started(int[][] zero, int[][] one) {
-        BranchGoals object = written(1, zero, one);
-        object.start();
-        return object;
-    }
-
-    /** Started by the first seed that leaves all goals open, so that a test's own cases are archived. */
-    private static BranchGoals startedQuietly(int[][] zero, int[][] one) {
-        for (int seed = 0; seed < 100000; seed++) {
-            BranchGoals object = written(seed, zero, one);
-            object.start();
-            if (object.found() == 0) {
-                return object;
-            }
-        }
-        throw new IllegalStateException("every start finds a goal");
-    }
-
-    private static int runCall(BranchGoals object, int kind, int x, int y) {
-        object.put(kind, x, y, -1);
-        return object.run();
-    }
-
-    private static long drawn(long state) {
-        return (state * 25214903917L + 11) & MASK;
     }
 
     // ---- promise 1 ----
