@@ -23,6 +23,7 @@ final class EdgesTest extends Bench {
         test.lineWithNoLine();
         test.startTellsGoals();
         test.startDrawsTwo();
+        test.startDrawsOfTwentySets();
         test.startTwice();
         test.watchedBeforeTheStart();
         test.watchedOfNoMethod();
@@ -46,6 +47,7 @@ final class EdgesTest extends Bench {
         test.finishAnew();
         test.finishOfWhatIsCoveredSoFar();
         test.finishDropsFromTheFirst();
+        test.finishDropsForAKeptOne();
         test.finishKeepsTheOrder();
         test.cutDownToOneStep();
         test.cutNotWhatIsReferredTo();
@@ -237,6 +239,25 @@ final class EdgesTest extends Bench {
             due("of one or two steps", object.length(0) >= 1 && object.length(1) <= 2, true);
             due("the shorter first", object.length(0) <= object.length(1), true);
             dueNoCase("a third", object, 2, 3, 4);
+        }
+    }
+
+    /** Both methods are full of SET; the first number of the first case is drawn by hand. */
+    private void startDrawsOfTwentySets() {
+        says("Else the c of line SET number DRAW(how many there are) (counted from 0 through method 0 and then 1)");
+        for (int seed = 0; seed < 300; seed++) {
+            BranchGoals object = new BranchGoals(seed);
+            for (int i = 0; i < 20; i++) {
+                object.line(i / 10, SET, 2, 0, 100 * (i + 1));
+            }
+            long state = drawn(drawn(object.state()));
+            boolean isField = (state >> 17) % 5 == 4;
+            state = drawn(isField ? drawn(state) : state);
+            long k = (state >> 17) % 4;
+            long next = drawn(state) >> 17;
+            long x = k == 0 ? next % 21 - 10 : 100 * (next % 20 + 1) + k - 2;
+            object.start();
+            due("seed " + seed + ": x of the first step", object.step(0, 0, 1) == x || object.step(1, 0, 1) == x, true);
         }
     }
 
@@ -526,6 +547,18 @@ final class EdgesTest extends Bench {
         due("all are reported", object.reported(), 15);
     }
 
+    /** Case A covers goals 0, 1, case B 0, 2, case C 2, 3, and no step of them can be left out. */
+    private void finishDropsForAKeptOne() {
+        says("is taken out if each goal that it covers is covered by another one (before it and behind it)");
+        BranchGoals object = startedQuietly(GROW_BOTH, GROW_ONE);
+        due("case A", runSteps(object, new int[] {0, 0, 1, -1}, new int[] {0, 0, 0, -1}), 1 | 2);
+        due("case B", runSteps(object, new int[] {0, 7, 1, -1}, new int[] {1, 0, 0, -1}), 1 | 4);
+        due("case C", runSteps(object, new int[] {1, 9, 1, -1}, new int[] {1, 1, 0, -1}), 4 | 8);
+        due("two are left", object.finish(), 2);
+        due("A stays", object.covers(200), 1 | 2);
+        due("C stays", object.covers(201), 4 | 8);
+    }
+
     private void finishKeepsTheOrder() {
         says("The others keep their order.");
         BranchGoals object = startedQuietly(COUNT_UP, SIX_BRANCHES);
@@ -703,12 +736,15 @@ final class EdgesTest extends Bench {
 
     private void noPart() {
         says("step: 0 when there is no such case, step or part (part)");
-        BranchGoals object = withTwoSteps();
-        for (int part : new int[] {-1, 4, 5, 8, -4, MIN, MAX}) {
-            due("part " + part + " of the first", object.step(-1, 0, part), 0);
-            due("part " + part + " of the second", object.step(-1, 1, part), 0);
+        BranchGoals object = started(ONE_IF, ONE_IF);
+        runSteps(object, new int[] {4, 11, 0, -1}, new int[] {5, 12, 0, -1}, new int[] {6, 13, 0, -1}, new int[] {7, 14, 0, -1},
+                new int[] {1, 15, 16, -1}, new int[] {1, 17, 0, 4});
+        for (int j = 0; j < 6; j++) {
+            for (int part : new int[] {-1, 4, 5, 8, -4, MIN, MAX}) {
+                due("part " + part + " of step " + j, object.step(-1, j, part), 0);
+            }
         }
-        dueStep("the parts there are", object, -1, 1, 0, 3, 3, -1);
+        dueStep("the parts there are", object, -1, 5, 1, 17, 0, 4);
     }
 
     private void noGoal() {

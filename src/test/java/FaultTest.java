@@ -27,9 +27,13 @@ final class FaultTest extends Bench {
         {SET, 2, 0, 3}, {IFEQ, 4, 2, 4}, {ADD, 4, 4, 0}, {RETURN, 4, 0, 0}, {IFLT, 5, 2, 6}, {RETURN, 1, 0, 0},
         {IFEQ, 1, 4, 7}};
 
+    private static final int[][] MANY_GOALS = {
+        {IFEQ, 0, 4, 3}, {IFLT, 0, 1, 4}, {SET, 5, 0, 20}, {ADD, 4, 4, 0}, {IFEQ, 1, 5, 7}, {IFLT, 4, 5, 7}, {IFEQ, 4, 6, 8},
+        {IFLT, 6, 0, 8}};
+
     private static final int[][][][] WORLDS = {
         {NO_BRANCH, NO_LINES}, {CHAIN, COUNT_UP}, {LONGER_IS_NEARER, NO_BRANCH}, {ENDS_OF_INTS, ONE_IF},
-        {UNWATCHED, NEEDS_FIELDS}, {NEEDS_FIELDS, TWO_WAYS}};
+        {UNWATCHED, NEEDS_FIELDS}, {NEEDS_FIELDS, TWO_WAYS}, {MANY_GOALS, MANY_GOALS}};
 
     /** Which methods are written and which calls are made. */
     private record Run(int seed, int[][][] world, int evolves) {

@@ -707,6 +707,9 @@ final class Model {
     }
 
     private boolean beats(Ranked one, Ranked other) {
+        if (breaks(Fault.FIRST_OF_THE_LIST_BEATS_NONE) && one.before == 0) {
+            return false;
+        }
         if (breaks(Fault.BEATEN_THOUGH_NEARER_ONCE)) {
             return one.nearerThan(other) > other.nearerThan(one);
         }

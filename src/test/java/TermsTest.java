@@ -8,6 +8,10 @@ final class TermsTest extends Bench {
     private static final int[][] BEHIND_DIVISION = {
         {IFEQ, 0, 1, 3}, {IFEQ, 0, 4, 3}, {RETURN, 0, 0, 0}, {DIV, 2, 0, 5}, {IFLT, 0, 6, 6}, {RETURN, 0, 0, 0},
         {IFEQ, 0, 7, 7}};
+    /** Each outcome of branch 0 leads to a division and a branch behind it; from both of them branch 3 is reached. */
+    private static final int[][] TWO_DIVISIONS = {
+        {IFEQ, 0, 1, 4}, {DIV, 2, 0, 5}, {IFEQ, 0, 6, 7}, {RETURN, 0, 0, 0}, {DIV, 2, 0, 5}, {IFLT, 0, 6, 7},
+        {RETURN, 0, 0, 0}, {IFEQ, 0, 7, 8}};
 
     private TermsTest() {
     }
@@ -403,8 +407,8 @@ final class TermsTest extends Bench {
     }
 
     private void valueInsteadOfY() {
-        says("a REF that is not -1 is the number of an earlier step of the case (from 0), and then the VALUE of that step is given"
-                + " instead of y, and y is 0");
+        says("a REF that is not -1 is the number of an earlier step of the case (from 0), and then the VALUE of that step"
+                + " is given instead of y, and y is 0");
         BranchGoals object = started(new int[][] {{ADD, 2, 0, 1}, {RETURN, 2, 0, 0}}, NO_LINES);
         runSteps(object, new int[] {0, 1, 10, -1}, new int[] {0, 100, 5000, 0}, new int[] {0, 1000, 5000, 0},
                 new int[] {0, 2, 5000, 2}, new int[] {0, 3, 5000, 3}, new int[] {0, 7, 5000, -1});
@@ -509,15 +513,18 @@ final class TermsTest extends Bench {
     }
 
     private void distancesOfIfeq() {
-        says("for IFEQ outcome 1: the difference of A and B without sign; outcome 0: 0 if A is not B, else 1 (exact, not wrapping)");
+        says("for IFEQ outcome 1: the difference of A and B without sign; outcome 0: 0 if A is not B, else 1"
+                + " (exact, not wrapping)");
         dueDistances(IFEQ, new long[][] {{5, 5, 1, 0}, {5, 6, 0, 1}, {6, 5, 0, 1}, {-3, 4, 0, 7}, {0, MIN, 0, 2147483648L},
-            {MIN, 0, 0, 2147483648L}, {MIN, MAX, 0, 4294967295L}, {MAX, MIN, 0, 4294967295L}, {MIN, MIN, 1, 0}, {MAX, -1, 0, 2147483648L}});
+            {MIN, 0, 0, 2147483648L}, {MIN, MAX, 0, 4294967295L}, {MAX, MIN, 0, 4294967295L}, {MIN, MIN, 1, 0},
+            {MAX, -1, 0, 2147483648L}});
     }
 
     private void distancesOfIflt() {
         says("For IFLT outcome 1: 0 if A < B, else A - B + 1; outcome 0: 0 if A >= B, else B - A (exact, not wrapping)");
         dueDistances(IFLT, new long[][] {{5, 5, 0, 1}, {5, 6, 1, 0}, {6, 5, 0, 2}, {-3, 4, 7, 0}, {0, MIN, 0, 2147483649L},
-            {MIN, 0, 2147483648L, 0}, {MIN, MAX, 4294967295L, 0}, {MAX, MIN, 0, 4294967296L}, {MIN, MIN, 0, 1}, {MAX, -1, 0, 2147483649L}});
+            {MIN, 0, 2147483648L, 0}, {MIN, MAX, 4294967295L, 0}, {MAX, MIN, 0, 4294967296L}, {MIN, MIN, 0, 1},
+            {MAX, -1, 0, 2147483649L}});
     }
 
     private void nearestOfARun() {
@@ -571,6 +578,9 @@ final class TermsTest extends Bench {
         BranchGoals both = started(shortAndLong, NO_LINES);
         runCall(both, 0, 8, 5);
         dueFitness("the least of two levels", both, 0, 4, LEVEL, LEVEL, LEVEL + 4, LEVEL + 4);
+        BranchGoals later = started(new int[][] {{GO, 0, 0, 2}, {IFEQ, 0, 1, 3}, {IFLT, 0, 1, 1}}, NO_LINES);
+        runCall(later, 0, 8, 5);
+        dueFitness("the first branch depends on a later one", later, LEVEL + 4, LEVEL + 4, 0, 4);
     }
 
     private void leastDistanceOfALevel() {
@@ -580,6 +590,13 @@ final class TermsTest extends Bench {
         dueFitness("the first is nearer", object, 0, 3, 0, 5, LEVEL + 3, LEVEL + 3, 2 * LEVEL + 3, 2 * LEVEL + 3);
         runSteps(object, new int[] {4, 6, 0, -1}, new int[] {0, 5, 8, -1});
         dueFitness("the second is nearer", object, 0, 3, 0, 1, LEVEL + 1, LEVEL + 1, 2 * LEVEL + 1, 2 * LEVEL + 1);
+        BranchGoals forked = started(TWO_DIVISIONS, NO_LINES);
+        runCall(forked, 0, 5, 8);
+        dueFitness("rows through two branches, the first nearer", forked, 0, 3, LEVEL, LEVEL, LEVEL + 3, LEVEL + 3,
+                2 * LEVEL, 2 * LEVEL);
+        runCall(forked, 0, 5, 5);
+        dueFitness("rows through two branches, the second nearer", forked, 1, 0, LEVEL + 1, LEVEL + 1, LEVEL, LEVEL,
+                2 * LEVEL, 2 * LEVEL);
     }
 
     private void levelSixtyFour() {
