@@ -46,7 +46,8 @@ public final class BranchGoals {
 
     private static final long LEVEL = 8589934592L;
     private static final long FARTHEST = 64 * LEVEL;
-    private static final long UNMEASURED = Long.MAX_VALUE;
+    /** No distance comes up to a level: the greatest is that of two ints, and one. */
+    private static final long UNMEASURED = LEVEL;
 
     private static final int MOST_POPULATION = 5;
     private static final int CHILDREN = 2;
@@ -770,7 +771,8 @@ public final class BranchGoals {
 
     /** The cases that are bred, in their order, with room for two children behind them. */
     private static final class Population {
-        private static final int UNPLACED = Integer.MAX_VALUE;
+        /** Behind the last front that there can be, that of a list where each case has one of its own. */
+        private static final int UNPLACED = MOST_POPULATION + CHILDREN + 1;
 
         final Case[] cases = makeCases(MOST_POPULATION + CHILDREN);
         int size = 0;

@@ -7,6 +7,8 @@ import java.nio.file.Files;
 import java.nio.file.Path;
 import java.util.Set;
 import java.util.TreeSet;
+import java.util.regex.Matcher;
+import java.util.regex.Pattern;
 
 /** The class has the document's face and nothing else to be seen, and keeps to LANGUAGE.md's plain bans. */
 final class FaceTest {
@@ -18,8 +20,15 @@ final class FaceTest {
             "long result(int,int)", "int runs()", "long state()");
     private static final String[] BANNED = {
         "\\b(throw|throws|try|catch|synchronized|assert|protected)\\b", "->", "::", "\\bpackage\\b",
-        "\\b(hashCode|toString|equals)\\b", "Exact\\(", "\\b(Random|System\\.(?!arraycopy))\\b",
+        "\\b(hashCode|toString|equals)\\b", "Exact\\(", "\\b(double|float)\\b", "\\bstatic\\s*\\{",
     };
+    /** Of what LANGUAGE.md's rule 4 lists, the part that the program uses: one more is to be looked up there first. */
+    private static final Set<String> LIBRARY = Set.of(
+            "Arrays.fill", "Integer.bitCount", "Math.abs", "Math.max", "Math.min", "System.arraycopy");
+    private static final Pattern USE_OF_A_CLASS = Pattern.compile("\\b[A-Z]\\w*[a-z]\\w*\\.\\w+");
+    private static final Pattern METHOD = Pattern.compile("(?ms)^( {4}| {8})(?! )[^;={}\\n]*\\) \\{\\n.*?^\\1\\}");
+    private static final int MOST_METHOD_LINES = 60;
+    private static final int MOST_FIELDS = 20;
 
     private FaceTest() {
     }
@@ -48,6 +57,27 @@ final class FaceTest {
         for (Field field : BranchGoals.class.getDeclaredFields()) {
             checks.due("field " + field.getName() + " is private", Modifier.isPrivate(field.getModifiers()), true);
         }
+        for (Method method : BranchGoals.class.getDeclaredMethods()) {
+            boolean isHidden = Modifier.isPrivate(method.getModifiers());
+            checks.due(method + " bears a name of the face", isHidden && isNameOfFace(method), false);
+        }
+        checkFields(BranchGoals.class, checks);
+    }
+
+    private static boolean isNameOfFace(Method method) {
+        return FACE.stream().anyMatch(face -> face.contains(" " + method.getName() + "("));
+    }
+
+    private static void checkFields(Class<?> type, Checks checks) {
+        int count = 0;
+        for (Field field : type.getDeclaredFields()) {
+            if (Modifier.isStatic(field.getModifiers())) {
+                checks.due("static field " + field + " is final", Modifier.isFinal(field.getModifiers()), true);
+            } else {
+                count++;
+            }
+        }
+        checks.due(type + " has at most some twenty fields", count <= MOST_FIELDS, true);
     }
 
     private static String signature(Method method) {
@@ -64,9 +94,9 @@ final class FaceTest {
         for (Class<?> type : nested) {
             checks.due(type + " is static", Modifier.isStatic(type.getModifiers()), true);
             checks.due(type + " is not public", Modifier.isPublic(type.getModifiers()), false);
+            checkFields(type, checks);
             for (Method method : type.getDeclaredMethods()) {
-                boolean isTaken = FACE.stream().anyMatch(face -> face.contains(" " + method.getName() + "("));
-                checks.due(type + "." + method.getName() + " bears a name of the face", isTaken, false);
+                checks.due(type + "." + method.getName() + " bears a name of the face", isNameOfFace(method), false);
                 checks.due(method + " takes at most seven", method.getParameterCount() <= 7, true);
             }
         }
@@ -75,7 +105,20 @@ final class FaceTest {
     private static void checkSource(Checks checks) throws IOException {
         String code = Files.readString(SOURCE).replaceAll("(?s)/\\*.*?\\*/", "").replaceAll("//[^\n]*", "");
         for (String banned : BANNED) {
-            checks.due("the source holds " + banned, java.util.regex.Pattern.compile(banned).matcher(code).find(), false);
+            checks.due("the source holds " + banned, Pattern.compile(banned).matcher(code).find(), false);
         }
+        checks.due("all that is imported is java.util.Arrays", code.lines()
+                .allMatch(line -> !line.startsWith("import") || line.equals("import java.util.Arrays;")), true);
+        String body = code.replaceAll("(?m)^import.*$", "");
+        for (Matcher use = USE_OF_A_CLASS.matcher(body); use.find(); ) {
+            checks.due("the source uses " + use.group(), LIBRARY.contains(use.group()), true);
+        }
+        int methods = 0;
+        for (Matcher method = METHOD.matcher(body); method.find(); methods++) {
+            String text = method.group();
+            checks.due(text.lines().findFirst() + " has at most some sixty lines",
+                    text.lines().count() <= MOST_METHOD_LINES, true);
+        }
+        checks.due("the methods that were measured are not fewer than the face", methods >= FACE.size(), true);
     }
 }

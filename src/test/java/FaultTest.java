@@ -31,13 +31,24 @@ final class FaultTest extends Bench {
         {IFEQ, 0, 4, 3}, {IFLT, 0, 1, 4}, {SET, 5, 0, 20}, {ADD, 4, 4, 0}, {IFEQ, 1, 5, 7}, {IFLT, 4, 5, 7}, {IFEQ, 4, 6, 8},
         {IFLT, 6, 0, 8}};
 
+    /** Each x has a fitness of its own for the one active goal, which is out of reach: as many fronts as cases. */
+    private static final int[][] OUT_OF_REACH = {{SET, 3, 0, 1000}, {MUL, 2, 3, 3}, {IFEQ, 0, 2, 4}, {RETURN, 0, 0, 0}};
+    /** The same for two goals, one by x and one by y. */
+    private static final int[][] BOTH_OUT_OF_REACH = {
+        {SET, 3, 0, 1000}, {MUL, 2, 3, 3}, {IFEQ, 0, 2, 3}, {IFEQ, 1, 2, 4}, {RETURN, 0, 0, 0}};
+
     private static final int[][][][] WORLDS = {
         {NO_BRANCH, NO_LINES}, {CHAIN, COUNT_UP}, {LONGER_IS_NEARER, NO_BRANCH}, {ENDS_OF_INTS, ONE_IF},
-        {UNWATCHED, NEEDS_FIELDS}, {NEEDS_FIELDS, TWO_WAYS}, {MANY_GOALS, MANY_GOALS}};
+        {UNWATCHED, NEEDS_FIELDS}, {NEEDS_FIELDS, TWO_WAYS}, {MANY_GOALS, MANY_GOALS}, {OUT_OF_REACH, NO_LINES},
+        {BOTH_OUT_OF_REACH, NO_LINES}};
 
     /** Which methods are written and which calls are made. */
     private record Run(int seed, int[][][] world, int evolves) {
     }
+
+    /** Runs that show what one run in some forty thousand shows: two cases in front 4 and a shorter one behind them. */
+    private static final Run[] RARE_RUNS = {
+        rareRun(56329, 8), rareRun(67141, 6), rareRun(128552, 8), rareRun(150542, 3)};
 
     private FaultTest() {
     }
@@ -50,8 +61,12 @@ final class FaultTest extends Bench {
         test.checks.end();
     }
 
+    private static Run rareRun(int seed, int evolves) {
+        return new Run(seed, new int[][][] {BOTH_OUT_OF_REACH, NO_LINES}, evolves);
+    }
+
     private static Run run(int n) {
-        return new Run(n, WORLDS[n % WORLDS.length], n / WORLDS.length % 40);
+        return n < RARE_RUNS.length ? RARE_RUNS[n] : new Run(n, WORLDS[n % WORLDS.length], n / WORLDS.length % 40);
     }
 
     private void showsBroken(Fault fault) {

@@ -682,7 +682,9 @@ final class Model {
             List<Ranked> others = breaks(Fault.BEATEN_BY_FRONT_0) ? all : List.copyOf(left);
             front = new ArrayList<>(left);
             front.removeIf(one -> others.stream().anyMatch(other -> beats(other, one)));
-            if (front.isEmpty() || number == 2 && breaks(Fault.ALL_BEATEN_ARE_FRONT_2)) {
+            if (front.isEmpty() || number == 2 && breaks(Fault.ALL_BEATEN_ARE_FRONT_2)
+                    || number == 3 && breaks(Fault.ALL_LEFT_ARE_FRONT_3)
+                    || number == 4 && breaks(Fault.ALL_LEFT_ARE_FRONT_4)) {
                 front = new ArrayList<>(left);
             }
         }

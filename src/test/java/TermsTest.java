@@ -38,6 +38,7 @@ final class TermsTest extends Bench {
         test.edgesToEnd();
         test.edgesToTheNextLine();
         test.wayToEnd();
+        test.wayBackThroughAllLines();
         test.placesOfAWay();
         test.dependsOnItself();
         test.dependsNotOnWhatItPostDominates();
@@ -56,6 +57,7 @@ final class TermsTest extends Bench {
         test.coversOnlyWhatWasDone();
         test.levelZero();
         test.leastLevel();
+        test.longestRow();
         test.leastDistanceOfALevel();
         test.levelSixtyFour();
         test.archivedFirst();
@@ -361,6 +363,20 @@ final class TermsTest extends Bench {
         dueDependence("an outcome without a way", started(endlessOutcome, NO_LINES), 0, 0);
     }
 
+    private void wayBackThroughAllLines() {
+        says("if there is a way along edges from x to END, and every such way passes y");
+        // The way from line 9 leads back through each line to the first; only from there is there one to END.
+        for (int last = 2; last <= 9; last++) {
+            int[][] lines = new int[last + 1][];
+            lines[0] = new int[] {IFLT, 0, 1, 10};
+            for (int i = 1; i < last; i++) {
+                lines[i] = new int[] {GO, 0, 0, i - 1};
+            }
+            lines[last] = new int[] {IFEQ, 0, 1, last - 1};
+            dueDependence("back from line " + last, started(lines, NO_LINES), 1 << 0 | 1 << 3, 0);
+        }
+    }
+
     private void placesOfAWay() {
         says("(x itself and END belong to a way)");
         dueDependence("x is y", started(new int[][] {{IFLT, 0, 1, 0}}, NO_LINES), 1 << 1);
@@ -581,6 +597,21 @@ final class TermsTest extends Bench {
         BranchGoals later = started(new int[][] {{GO, 0, 0, 2}, {IFEQ, 0, 1, 3}, {IFLT, 0, 1, 1}}, NO_LINES);
         runCall(later, 0, 8, 5);
         dueFitness("the first branch depends on a later one", later, LEVEL + 4, LEVEL + 4, 0, 4);
+    }
+
+    private void longestRow() {
+        says("g's branch depends on h1, the branch of h1 on h2, and so on, and the branch of hk was done");
+        // A watched method has at most six branches, so no row is longer than five.
+        int[][] six = repeated(6, new int[] {IFEQ, 0, 1, 10});
+        BranchGoals object = started(six, six);
+        runCall(object, 0, 5, 5);
+        for (int k = 1; k <= 5; k++) {
+            due("a row of " + k + " to outcome 0", object.fitness(-1, 2 * k), k * LEVEL + 1);
+            due("a row of " + k + " to outcome 1", object.fitness(-1, 2 * k + 1), k * LEVEL + 1);
+        }
+        runCall(object, 1, 5, 5);
+        due("a row of 5 to the last goal", object.fitness(-1, 23), 5 * LEVEL + 1);
+        due("no row in the other method", object.fitness(-1, 11), FAR);
     }
 
     private void leastDistanceOfALevel() {
